@@ -1,16 +1,35 @@
-/** Compares answers with those that are due, and ends a test. */
+/** Runs tests, each under the sentence of the document that it holds the class to, and ends with 1 if one failed. */
 final class Due {
+    private static String part = "";
     private static int asked = 0;
     private static int wrong = 0;
+    private static boolean allHold = true;
+    private static boolean anyRan = false;
 
     private Due() {
+    }
+
+    /** The part of the document that the tests which follow are about. */
+    static void about(String name) {
+        part = name;
+    }
+
+    /** A test that asks nothing fails. */
+    static void test(String sentence, Runnable body) {
+        asked = 0;
+        wrong = 0;
+        body.run();
+        boolean holds = asked > 0 && wrong == 0;
+        allHold &= holds;
+        anyRan = true;
+        System.out.println((holds ? "ok      " : "FAILED  ") + part + ": " + sentence);
     }
 
     static void is(String call, long got, long want) {
         asked++;
         if (got != want) {
             wrong++;
-            System.out.println(call + " answered " + got + ", due is " + want);
+            System.out.println("        " + call + " answered " + got + ", due is " + want);
         }
     }
 
@@ -18,7 +37,7 @@ final class Due {
         asked++;
         if (!got.equals(want)) {
             wrong++;
-            System.out.println(call + " answered \"" + got + "\", due is \"" + want + "\"");
+            System.out.println("        " + call + " answered \"" + got + "\", due is \"" + want + "\"");
         }
     }
 
@@ -27,10 +46,7 @@ final class Due {
     }
 
     static void end() {
-        if (asked == 0) {
-            System.out.println("nothing was asked");
-        }
-        if (asked == 0 || wrong > 0) {
+        if (!anyRan || !allHold) {
             System.exit(1);
         }
     }

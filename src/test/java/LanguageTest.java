@@ -9,7 +9,6 @@ import java.util.ArrayList;
 import java.util.List;
 import java.util.Set;
 import java.util.TreeSet;
-import java.util.regex.Matcher;
 import java.util.regex.Pattern;
 
 /** The document's face, and what LANGUAGE.md rules out as far as it can be seen from words and members. */
@@ -30,19 +29,39 @@ public final class LanguageTest {
         "\\bSystem\\.(?!arraycopy)", "\\bwhile *\\(true", "for *\\(;",
     };
 
-    public static void main(String[] args) throws IOException, ReflectiveOperationException {
-        methodsOfTheFace();
-        constantsOfTheFace();
-        classesInside();
-        source(Files.readString(Path.of("src/main/java/FoldedBench.java")));
+    public static void main(String[] args) throws IOException {
+        String source = Files.readString(Path.of("src/main/java/FoldedBench.java"));
+        String code = source.replaceAll("(?s)/\\*.*?\\*/", "").replaceAll("//[^\n]*", "");
+        Due.about("LANGUAGE.md");
+        Due.test("1: the class is final, with one public constructor", LanguageTest::classAndConstructor);
+        Due.test("1: the methods of the document, and no others", LanguageTest::methodsOfTheFace);
+        Due.test("1: no private method bears the name of a public one", LanguageTest::namesInside);
+        Due.test("1: the constants of the document, and no others", LanguageTest::constantsOfTheFace);
+        Due.test("2, 5, 11: classes inside are static, and small; static fields are final", LanguageTest::classesInside);
+        Due.test("2, 4, 6, 13: no words and forms that are ruled out", () -> formsOf(code));
+        Due.test("3: signs 1 to 127 alone",
+            () -> Due.holds("signs 1 to 127", source.chars().allMatch(c -> c > 0 && c < 128)));
+        Due.test("11: methods of some sixty lines at most", () -> lengthsOf(code));
         Due.end();
     }
 
+    private static void classAndConstructor() {
+        Constructor<?>[] constructors = FoldedBench.class.getDeclaredConstructors();
+        Due.is("constructors", constructors.length, 1);
+        Due.holds("it is public, and takes nothing", Modifier.isPublic(constructors[0].getModifiers())
+            && constructors[0].getParameterCount() == 0);
+        Due.holds("the class is final", Modifier.isFinal(FoldedBench.class.getModifiers()));
+        Due.holds("the class is public", Modifier.isPublic(FoldedBench.class.getModifiers()));
+    }
+
+    private static boolean isOfTheFace(Method method) {
+        return !Modifier.isPrivate(method.getModifiers()) && !method.isSynthetic();
+    }
+
     private static void methodsOfTheFace() {
-        Set<String> names = new TreeSet<>();
         Set<String> found = new TreeSet<>();
         for (Method method : FoldedBench.class.getDeclaredMethods()) {
-            if (Modifier.isPrivate(method.getModifiers()) || method.isSynthetic()) {
+            if (!isOfTheFace(method)) {
                 continue;
             }
             StringBuilder text = new StringBuilder(method.getName());
@@ -50,32 +69,41 @@ public final class LanguageTest {
                 text.append(' ').append(type.getName());
             }
             found.add(text.toString());
-            names.add(method.getName());
             Due.holds(text + " is public, answers an int", Modifier.isPublic(method.getModifiers())
                 && !Modifier.isStatic(method.getModifiers()) && method.getReturnType() == int.class);
         }
         Due.is("the methods", found.toString(), new TreeSet<>(List.of(FACE)).toString());
+    }
+
+    private static void namesInside() {
+        Set<String> names = new TreeSet<>();
+        for (String method : FACE) {
+            names.add(method.split(" ")[0]);
+        }
         for (Class<?> type : ownClasses()) {
             for (Method method : type.getDeclaredMethods()) {
-                boolean isInside = type != FoldedBench.class || Modifier.isPrivate(method.getModifiers());
+                boolean isInside = type != FoldedBench.class || !isOfTheFace(method);
                 Due.holds(type + " has its own " + method.getName(), !isInside || !names.contains(method.getName()));
             }
         }
-        Constructor<?>[] constructors = FoldedBench.class.getDeclaredConstructors();
-        Due.is("constructors", constructors.length, 1);
-        Due.holds("it is public, and takes nothing", Modifier.isPublic(constructors[0].getModifiers())
-            && constructors[0].getParameterCount() == 0);
-        Due.holds("the class is final", Modifier.isFinal(FoldedBench.class.getModifiers()));
     }
 
-    private static void constantsOfTheFace() throws ReflectiveOperationException {
+    private static void constantsOfTheFace() {
         Set<String> found = new TreeSet<>();
         for (Field field : FoldedBench.class.getDeclaredFields()) {
             if (!Modifier.isPrivate(field.getModifiers())) {
-                found.add(field.getName() + " " + field.getInt(null));
+                found.add(field.getName() + " " + valueOf(field));
             }
         }
         Due.is("the constants", found.toString(), new TreeSet<>(List.of(CONSTANTS)).toString());
+    }
+
+    private static int valueOf(Field field) {
+        try {
+            return field.getInt(null);
+        } catch (ReflectiveOperationException e) {
+            throw new IllegalStateException(e);
+        }
     }
 
     private static List<Class<?>> ownClasses() {
@@ -103,13 +131,13 @@ public final class LanguageTest {
         }
     }
 
-    private static void source(String text) {
-        String code = text.replaceAll("(?s)/\\*.*?\\*/", "").replaceAll("//[^\n]*", "");
+    private static void formsOf(String code) {
         for (String form : RULED_OUT) {
-            Matcher matcher = Pattern.compile(form).matcher(code);
-            Due.holds("no " + form, !matcher.find());
+            Due.holds("no " + form, !Pattern.compile(form).matcher(code).find());
         }
-        Due.holds("signs 1 to 127 alone", text.chars().allMatch(c -> c > 0 && c < 128));
+    }
+
+    private static void lengthsOf(String code) {
         int lines = 0;
         for (String line : code.split("\n")) {
             boolean opens = line.matches(" {4}( {4})?(public |private )?(static )?[A-Za-z\\[\\]]+ ?[A-Za-z]*\\(.*\\{");

@@ -1,19 +1,45 @@
 /** Promise 22: wipe. */
 public final class P22WipeTest {
     public static void main(String[] args) {
+        Due.about("Promise 22, wipe");
+        Due.test("Empties the pad", P22WipeTest::empties);
+        Due.test("returns the length that it had: 0 to 80", P22WipeTest::lengths);
+        Due.test("texts are no changes, and no orders are carried out", P22WipeTest::noChange);
+        Due.end();
+    }
+
+    private static void empties() {
         FoldedBench x = new FoldedBench();
-        Due.is("wipe() of nothing", x.wipe(), 0);
         Bench.put(x, "c;c;fau");
-        Due.is("wipe()", x.wipe(), 7);
+        x.wipe();
         Due.is("the length", x.count(11), 0);
-        Due.is("the pad", Bench.pad(x), "");
-        Due.is("wipe() again", x.wipe(), 0);
+        Due.is("sign(0)", x.sign(0), FoldedBench.NO_SUCH);
         Bench.put(x, "o");
         Due.is("the pad", Bench.pad(x), "o");
-        Due.is("no change", x.count(12), 0);
-        Due.is("no cousin came", x.count(0), 0);
-        Bench.put(x, "o".repeat(79));
-        Due.is("wipe() of all", x.wipe(), 80);
-        Due.end();
+    }
+
+    private static void lengths() {
+        Due.is("wipe() of nothing", new FoldedBench().wipe(), 0);
+        for (int length : new int[] {1, 2, 79, 80}) {
+            FoldedBench x = new FoldedBench();
+            Bench.put(x, "o".repeat(length));
+            Due.is("wipe() of " + length, x.wipe(), length);
+            Due.is("wipe() again", x.wipe(), 0);
+        }
+        FoldedBench x = new FoldedBench();
+        x.write();
+        Due.is("wipe() of how it lies", x.wipe(), 15);
+    }
+
+    private static void noChange() {
+        FoldedBench x = Bench.seated(0);
+        String before = Bench.seen(x);
+        Bench.put(x, "c;c");
+        Due.is("wipe()", x.wipe(), 3);
+        Due.is("all after it", Bench.seen(x), before);
+        Bench.put(x, "c;c");
+        x.wipe();
+        Due.is("undo()", x.undo(), 1);
+        Due.is("the pad stays empty", x.count(11), 0);
     }
 }

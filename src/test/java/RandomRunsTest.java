@@ -30,15 +30,24 @@ public final class RandomRunsTest {
     private static final Set<String> met = new TreeSet<>();
 
     public static void main(String[] args) {
+        Due.about("Random runs");
+        Due.test("all answers are the model's", RandomRunsTest::areAlike);
+        Due.test("they meet each error of each call", RandomRunsTest::meetAll);
+        Due.end();
+    }
+
+    private static void areAlike() {
         boolean alike = true;
         for (int seed = 0; seed < RUNS && alike; seed++) {
             alike = new RandomRunsTest(seed).isAlike(seed);
         }
-        Due.holds("all answers are the model's", alike);
+        Due.holds("all answers", alike);
+    }
+
+    private static void meetAll() {
         for (String answer : MET) {
             Due.holds("met " + answer, met.contains(answer));
         }
-        Due.end();
     }
 
     private boolean isAlike(int seed) {
