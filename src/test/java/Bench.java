@@ -30,6 +30,15 @@ final class Bench {
         return settle(ofSeats(seats), all);
     }
 
+    /** A full bench with foes: the first and the second of these, the third and the fourth, and so on. */
+    static FoldedBench withFoes(int seats, int... foes) {
+        FoldedBench x = full(seats);
+        for (int i = 0; i + 1 < foes.length; i += 2) {
+            Due.is("relate", x.relate(foes[i], foes[i + 1], -1), 1);
+        }
+        return x;
+    }
+
     /** Cousins come to a bench without any, and sit down. */
     static FoldedBench settle(FoldedBench x, int... seats) {
         for (int i = 0; i < seats.length; i++) {
@@ -68,8 +77,8 @@ final class Bench {
     }
 
     /**
-     * A bench with a past: a full history, both slots saved, a pad, three cousins on 3, 4 and 0; the first two are foes,
-     * the first and the last friends.
+     * A bench with a past: a full history, both slots saved, a pad, and three cousins on 3, 4 and 0; the first two are
+     * foes, the first and the last friends.
      */
     static FoldedBench lived() {
         FoldedBench x = seated(3, 4);
@@ -201,7 +210,7 @@ final class Bench {
         return all.toString();
     }
 
-    /** What can be seen, the pad, and the gaps of the folds, for which the bench is unfolded: some 300 calls at most. */
+    /** What can be seen, the pad, and the gaps of the folds, for which the bench is unfolded: by some 270 calls. */
     private static String whole(FoldedBench x) {
         StringBuilder all = new StringBuilder(seen(x)).append(pad(x));
         for (int folds = x.count(3); folds > 0; folds--) {

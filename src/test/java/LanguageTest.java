@@ -37,7 +37,8 @@ public final class LanguageTest {
         Due.test("1: the methods of the document, and no others", LanguageTest::methodsOfTheFace);
         Due.test("1: no private method bears the name of a public one", LanguageTest::namesInside);
         Due.test("1: the constants of the document, and no others", LanguageTest::constantsOfTheFace);
-        Due.test("2, 5, 11: classes inside are static, and small; static fields are final", LanguageTest::classesInside);
+        Due.test("2, 5, 11: classes inside are static, and small; static fields are final",
+            LanguageTest::classesInside);
         Due.test("2, 4, 6, 13: no words and forms that are ruled out", () -> formsOf(code));
         Due.test("3: signs 1 to 127 alone",
             () -> Due.holds("signs 1 to 127", source.chars().allMatch(c -> c > 0 && c < 128)));

@@ -5,7 +5,8 @@ public final class P07RelateTest {
 
     public static void main(String[] args) {
         Due.about("Promise 7, relate");
-        Due.test("Tells how two cousins are to each other: 1 friends, -1 foes, 0 neither", P07RelateTest::eachToTheOther);
+        Due.test("Tells how two cousins are to each other: 1 friends, -1 foes, 0 neither",
+            P07RelateTest::eachToTheOther);
         Due.test("how two cousins are: no others", P07RelateTest::noOthers);
         Due.test("This is a change: also if it is the same", P07RelateTest::isAChange);
         Due.test("Returns how they were, and 1: 0, 1, 2", P07RelateTest::howTheyWere);

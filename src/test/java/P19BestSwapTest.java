@@ -2,8 +2,10 @@
 public final class P19BestSwapTest {
     public static void main(String[] args) {
         Due.about("Promise 19, bestSwap");
-        Due.test("Finds the two seats with whose swap the fewest pairs of foes would face", P19BestSwapTest::fewestPairs);
+        Due.test("Finds the two seats with whose swap the fewest pairs of foes would face",
+            P19BestSwapTest::fewestPairs);
         Due.test("as the bench lies (as if one could swap now)", P19BestSwapTest::asItLies);
+        Due.test("with whose swap: also if each swap is worse than none", P19BestSwapTest::worseThanNone);
         Due.test("the fewest pairs: none, some, all", P19BestSwapTest::noneSomeAll);
         Due.test("of several those with the lowest lower one", P19BestSwapTest::lowestLowerOne);
         Due.test("then the lowest higher one", P19BestSwapTest::lowestHigherOne);
@@ -60,6 +62,18 @@ public final class P19BestSwapTest {
             }
         }
         return x;
+    }
+
+    private static void worseThanNone() {
+        FoldedBench x = Bench.withFoes(4, 0, 2, 1, 3, 0, 1, 2, 3);
+        x.press(2);
+        Due.is("how it lies", Bench.lies(x), "1.2/0.3");
+        Due.is("pairs", x.count(4), 0);
+        is(x, 0, 3, 0);
+        x = Bench.pressed(Bench.withFoes(4, 1, 3, 0, 1, 0, 2), 2, 1);
+        Due.is("how it lies", Bench.lies(x), "1.2.3.0");
+        Due.is("pairs", x.count(4), 0);
+        is(x, 0, 2, 1);
     }
 
     private static void noneSomeAll() {

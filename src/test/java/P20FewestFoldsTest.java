@@ -4,7 +4,8 @@ public final class P20FewestFoldsTest {
 
     public static void main(String[] args) {
         Due.about("Promise 20, fewestFolds");
-        Due.test("the fewest further folds by which the bench has one column: of each bench", P20FewestFoldsTest::empty);
+        Due.test("the fewest further folds by which the bench has one column: of each bench",
+            P20FewestFoldsTest::empty);
         Due.test("further folds: those that it has do not count", P20FewestFoldsTest::further);
         Due.test("none of which would be refused: around foes", P20FewestFoldsTest::aroundFoes);
         Due.test("none of which would be refused: neither the first nor a later one", P20FewestFoldsTest::laterFolds);
@@ -39,40 +40,32 @@ public final class P20FewestFoldsTest {
         Due.is("unfolded again", x.fewestFolds(), 4);
     }
 
-    private static FoldedBench withFoes(int seats, int... pairs) {
-        FoldedBench x = Bench.full(seats);
-        for (int i = 0; i < pairs.length; i += 2) {
-            x.relate(pairs[i], pairs[i + 1], -1);
-        }
-        return x;
-    }
-
     private static void aroundFoes() {
-        Due.is("four without foes", withFoes(4).fewestFolds(), 2);
-        Due.is("not by halves", withFoes(4, 0, 3).fewestFolds(), 3);
-        Due.is("by halves", withFoes(4, 0, 1).fewestFolds(), 2);
-        Due.is("1 on 2, then 0", withFoes(3, 0, 1).fewestFolds(), 2);
-        FoldedBench x = withFoes(4, 0, 3);
+        Due.is("four without foes", Bench.withFoes(4).fewestFolds(), 2);
+        Due.is("not by halves", Bench.withFoes(4, 0, 3).fewestFolds(), 3);
+        Due.is("by halves", Bench.withFoes(4, 0, 1).fewestFolds(), 2);
+        Due.is("1 on 2, then 0", Bench.withFoes(3, 0, 1).fewestFolds(), 2);
+        FoldedBench x = Bench.withFoes(4, 0, 3);
         x.stand(3);
         Due.is("a foe who stands is none", x.fewestFolds(), 2);
     }
 
     private static void laterFolds() {
-        Due.is("the only fold", withFoes(2, 0, 1).fewestFolds(), NONE);
-        Due.is("each first fold", withFoes(3, 0, 1, 1, 2).fewestFolds(), NONE);
-        Due.is("the second fold, whatever the first", withFoes(4, 0, 1, 2, 3).fewestFolds(), NONE);
-        FoldedBench x = withFoes(4, 0, 1, 2, 3);
+        Due.is("the only fold", Bench.withFoes(2, 0, 1).fewestFolds(), NONE);
+        Due.is("each first fold", Bench.withFoes(3, 0, 1, 1, 2).fewestFolds(), NONE);
+        Due.is("the second fold, whatever the first", Bench.withFoes(4, 0, 1, 2, 3).fewestFolds(), NONE);
+        FoldedBench x = Bench.withFoes(4, 0, 1, 2, 3);
         Due.is("the first fold", x.fold(2), 2);
         Due.is("the second one", x.fewestFolds(), NONE);
         Due.is("the second one", x.fold(1), FoldedBench.NOT_POSSIBLE);
     }
 
     private static void foesFaceAlready() {
-        FoldedBench x = Bench.pressed(withFoes(4, 1, 2), 2);
+        FoldedBench x = Bench.pressed(Bench.withFoes(4, 1, 2), 2);
         Due.is("foes face", x.fewestFolds(), NONE);
         x.relate(1, 2, 0);
         Due.is("no foes any more", x.fewestFolds(), 1);
-        x = Bench.pressed(withFoes(12, 0, 1), 1);
+        x = Bench.pressed(Bench.withFoes(12, 0, 1), 1);
         Due.is("foes face on a long bench", x.fewestFolds(), NONE);
     }
 
@@ -80,9 +73,9 @@ public final class P20FewestFoldsTest {
         Due.is("of two seats", Bench.pressed(Bench.ofSeats(2), 1).fewestFolds(), 0);
         Due.is("of sixteen seats", Bench.pressed(Bench.ofSeats(16), 8, 4, 2, 1).fewestFolds(), 0);
         Due.is("by five folds", Bench.foldedTimes(Bench.ofSeats(6), 5).fewestFolds(), 0);
-        Due.is("foes face in it", Bench.pressed(withFoes(2, 0, 1), 1).fewestFolds(), 0);
-        Due.is("foes face in it, by five folds", Bench.pressed(Bench.all(Bench.full(6), -1), 1, 1, 1, 1, 1).fewestFolds(),
-            0);
+        Due.is("foes face in it", Bench.pressed(Bench.withFoes(2, 0, 1), 1).fewestFolds(), 0);
+        FoldedBench x = Bench.pressed(Bench.all(Bench.full(6), -1), 1, 1, 1, 1, 1);
+        Due.is("foes face in it, by five folds", x.fewestFolds(), 0);
     }
 
     /** Only neighbours may face, so that a fold can lay but one column over another one. */

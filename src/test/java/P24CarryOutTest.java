@@ -14,7 +14,8 @@ public final class P24CarryOutTest {
         Due.test("one after the other", P24CarryOutTest::oneAfterTheOther);
         Due.test("up to the first one that returns an error: each error", P24CarryOutTest::upToEachError);
         Due.test("up to the first one that returns an error: NONE is none", P24CarryOutTest::noneIsNoError);
-        Due.test("Returns how many orders were carried out: 0 to 40", P24CarryOutTest::howMany);
+        Due.test("Returns how many orders were carried out: 0 to 35, the most that a pad has room for",
+            P24CarryOutTest::howMany);
         Due.test("empties the pad: also if none is carried out", P24CarryOutTest::emptiesThePad);
         Due.test("This is a change (one, with all of them)", P24CarryOutTest::oneChange);
         Due.test("(also if none is carried out)", P24CarryOutTest::changeWithoutOrders);
@@ -101,7 +102,8 @@ public final class P24CarryOutTest {
         Due.is("unfold()", x.unfold(), 12);
         is(x, "u11", 1);
         Due.is("the seat", x.of(11, 0), FoldedBench.NONE);
-        for (String text : new String[] {"u12", "u99", "s1@16", "s1@99", "s12@0", "x0~12", "x99~0", "f16", "f99", "f0"}) {
+        String[] refused = {"u12", "u99", "s1@16", "s1@99", "s12@0", "x0~12", "x99~0", "f16", "f99", "f0"};
+        for (String text : refused) {
             is(x, text, 0);
         }
     }
@@ -150,6 +152,8 @@ public final class P24CarryOutTest {
         is(x, "o;".repeat(39) + "o", 0);
         x = Bench.foldedTimes(Bench.ofSeats(16), 5);
         is(x, "o;".repeat(39) + "o", 5);
+        x = Bench.foldedTimes(Bench.ofSeats(16), 5);
+        is(x, "o;".repeat(5) + "c;".repeat(12) + "f1;o;".repeat(8) + "f1;o", 35);
         is(new FoldedBench(), "c;".repeat(39) + "c", 12);
         is(new FoldedBench(), "c;".repeat(12) + "f1;o;".repeat(10) + "f1;o", 34);
         is(Bench.seated(-1), "x0~0;".repeat(16).substring(0, 79), 0);

@@ -27,8 +27,8 @@ public final class P26SaveTest {
         FoldedBench x = rich();
         String before = Bench.state(x);
         x.save(1);
-        while (x.undo() >= 0) {
-            Due.holds("undone", true);
+        for (int i = 5; i >= 0; i--) {
+            Due.is("undo()", x.undo(), i);
         }
         x.unfold();
         x.unfold();

@@ -94,7 +94,10 @@ public final class RandomRunsTest {
     }
 
     private int any(int many) {
-        return random.nextInt(40) == 0 ? ODD[random.nextInt(ODD.length)] : random.nextInt(many + 1) - random.nextInt(40) / 39;
+        if (random.nextInt(40) == 0) {
+            return ODD[random.nextInt(ODD.length)];
+        }
+        return random.nextInt(many + 1) - random.nextInt(40) / 39;
     }
 
     private int cousin() {

@@ -17,7 +17,8 @@ public final class TermsFoldsTest {
         Due.test("the bench has then as many columns as the greater one of g and w - g", TermsFoldsTest::columnsThen);
         Due.test("A bench has up to 5 folds", TermsFoldsTest::fiveFolds);
         Due.test("one after the other; to unfold it is to take the latest one back", TermsFoldsTest::latestBack);
-        Due.test("Two seats face each other if one lies next above the other one in a stack", TermsFoldsTest::seatsFace);
+        Due.test("Two seats face each other if one lies next above the other one in a stack",
+            TermsFoldsTest::seatsFace);
         Due.test("two cousins face if their seats do", TermsFoldsTest::cousinsFace);
         Due.end();
     }

@@ -8,7 +8,8 @@ public final class TermsMoodsTest {
         Due.test("The mood of a cousin who sits is 5: with nobody near, or nobody who matters", TermsMoodsTest::five);
         Due.test("NEAR more for each friend on a seat next to the own one", TermsMoodsTest::friendsBeside);
         Due.test("less for each foe on a seat next to the own one", TermsMoodsTest::foesBeside);
-        Due.test("next to the own one along the bench: not two seats away, nor around its ends", TermsMoodsTest::nextOnly);
+        Due.test("next to the own one along the bench: not two seats away, nor around its ends",
+            TermsMoodsTest::nextOnly);
         Due.test("along the bench: also while it is folded", TermsMoodsTest::besideWhileFolded);
         Due.test("FACE more for each friend who faces", TermsMoodsTest::friendsFace);
         Due.test("less for each foe who faces", TermsMoodsTest::foesFace);
@@ -18,7 +19,8 @@ public final class TermsMoodsTest {
         Due.test("9 at most", TermsMoodsTest::nineAtMost);
         Due.test("0 at least, 9 at most: of the whole sum alone", TermsMoodsTest::wholeSum);
         Due.test("(One who stands has none.)", TermsMoodsTest::standing);
-        Due.test("A toast is the sum of the moods of all who sit: nobody, all, and the greatest", TermsMoodsTest::toasts);
+        Due.test("A toast is the sum of the moods of all who sit: nobody, all, and the greatest",
+            TermsMoodsTest::toasts);
         Due.end();
     }
 

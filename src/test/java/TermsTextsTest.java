@@ -36,9 +36,11 @@ public final class TermsTextsTest {
         Due.test("A number is 0 to 99", TermsTextsTest::everyNumber);
         Due.test("without leading zeros", TermsTextsTest::leadingZeros);
         Due.test("the first character that cannot stand at its place", TermsTextsTest::everyNextCharacter);
-        Due.test("read from left to right: what comes behind the first one tells nothing", TermsTextsTest::firstOfSeveral);
+        Due.test("read from left to right: what comes behind the first one tells nothing",
+            TermsTextsTest::firstOfSeveral);
         Due.test("(also of a digit by which a number would be above 99)", TermsTextsTest::thirdDigit);
-        Due.test("if there is none and the text ends too early, it is the length of the text", TermsTextsTest::tooEarly);
+        Due.test("if there is none and the text ends too early, it is the length of the text",
+            TermsTextsTest::tooEarly);
         Due.test("(also if it is empty)", TermsTextsTest::empty);
         Due.test("the index of the last place of a full pad, and its length", TermsTextsTest::fullPads);
         Due.end();
